@@ -489,7 +489,7 @@ public final class FanNet {
                 return;
             }
             if (other.size > items.length) {
-                items = Arrays.copyOf(items, other.size);
+                items = Arrays.copyOf(items, Math.min(most, Math.max(other.size, 2 * items.length)));
             }
             System.arraycopy(other.items, 0, items, 0, other.size);
             size = other.size;
