@@ -931,14 +931,20 @@ public final class FanNet {
         private final Row copies = new Row(2, 2);
         private int size = 0;
         private int noneFreeBelow = 0;
+        private int noneUsedFrom = 0;
         private boolean overfull = false;
 
-        void clear() {
+        Net() {
             kinds.fill(SLOTS, NONE);
             levels.fill(SLOTS, 0);
             wires.fill(4 * SLOTS, 0);
+        }
+
+        void clear() {
+            kinds.fill(SLOTS, NONE);
             size = 0;
             noneFreeBelow = 0;
+            noneUsedFrom = 0;
             overfull = false;
         }
 
@@ -948,6 +954,7 @@ public final class FanNet {
             wires.copy(other.wires);
             size = other.size;
             noneFreeBelow = other.noneFreeBelow;
+            noneUsedFrom = other.noneUsedFrom;
             overfull = other.overfull;
         }
 
@@ -987,6 +994,7 @@ public final class FanNet {
                     levels.set(node, level);
                     size++;
                     noneFreeBelow = node + 1;
+                    noneUsedFrom = Math.max(noneUsedFrom, node + 1);
                     return node;
                 }
             }
@@ -1001,7 +1009,7 @@ public final class FanNet {
 
         int sizeOfKind(int kind) {
             int found = 0;
-            for (int node = 0; node < MOST_NODES; node++) {
+            for (int node = 0; node < noneUsedFrom; node++) {
                 if (kinds.get(node) == kind) {
                     found++;
                 }
@@ -1011,7 +1019,7 @@ public final class FanNet {
 
         int greatestLevel() {
             int greatest = 0;
-            for (int node = 0; node < MOST_NODES; node++) {
+            for (int node = 0; node < noneUsedFrom; node++) {
                 if (kinds.get(node) != NONE) {
                     greatest = Math.max(greatest, levels.get(node));
                 }
@@ -1021,7 +1029,7 @@ public final class FanNet {
 
         int activeWires() {
             int found = 0;
-            for (int node = 0; node < MOST_NODES; node++) {
+            for (int node = 0; node < noneUsedFrom; node++) {
                 if (isLesserOfActive(node)) {
                     found++;
                 }
@@ -1034,7 +1042,7 @@ public final class FanNet {
         }
 
         int greatestActive() {
-            for (int node = MOST_NODES - 1; node >= 0; node--) {
+            for (int node = noneUsedFrom - 1; node >= 0; node--) {
                 if (isLesserOfActive(node)) {
                     return node;
                 }
@@ -1045,7 +1053,7 @@ public final class FanNet {
         /** The lesser node of the i-th active wire. */
         int activeNode(int i) {
             int left = i;
-            for (int node = 0; node < MOST_NODES; node++) {
+            for (int node = 0; node < noneUsedFrom; node++) {
                 if (isLesserOfActive(node)) {
                     if (left == 0) {
                         return node;

@@ -15,6 +15,8 @@ public final class NetTest {
         notRead();
         mostParts();
         mostWires();
+        mostLevel();
+        fullNet();
         Due.end();
     }
 
@@ -290,5 +292,37 @@ public final class NetTest {
             Due.is("wires of " + (wires + more), y.count(23), read ? wires + more : 4001);
             Due.is("wanted with " + (wires + more), y.wanted(2), x.wanted(2) + more);
         }
+    }
+
+    /** The level of what is wanted rises step by step here, till one comes to a node of level 201. */
+    private static void mostLevel() {
+        FanNet x = Due.told("y=\\f.(\\x.f (x x))(\\x.f (x x)); y (\\a.a)");
+        for (int i = 0; i < 168; i++) {
+            Due.is("run " + i, x.run(0, 60), 60);
+        }
+        Due.is("levels up to 200 are read", x.count(2) + " " + x.count(10) + " " + x.wanted(2), "200 9 205");
+        Due.is("run up to level 201", x.run(0, 60), 11);
+        Due.is("one is lost", x.count(2) + " " + x.count(10) + " " + x.count(11) + " " + x.count(23), "201 -1 0 205");
+        Due.is("nothing is wanted", x.wanted(0) + " " + x.wanted(1) + " " + x.wanted(2), "-1 -1 0");
+        Due.is("step(0)", x.step(0), 0);
+        Due.is("trial(0)", trial(x, 0), "0 0 228 0");
+        Due.is("but there are active wires", x.step(1), 4);
+    }
+
+    /** In a full net a step is done if it makes no more nodes than it takes. */
+    private static void fullNet() {
+        String row = "b c d e f g h i j k l m n o p q r s t u v w x";
+        String big = "\\a " + row + " aa." + "a(".repeat(11) + row + " b b" + ")".repeat(11);
+        FanNet x = Due.told("n=" + big + ";(\\x.x) n");
+        Due.is("nodes", x.count(0), 400);
+        Due.is("a beta", x.step(0), 1);
+        Due.is("nodes behind it", x.count(0), 398);
+        Due.is("a curl through a function", x.step(0), 4);
+        Due.is("nodes behind it", x.count(0), 399);
+        Due.is("the most nodes", x.count(9), 400);
+        Due.is("and another one", x.step(0), 4);
+        Due.is("nodes behind it", x.count(0), 400);
+        Due.is("no further one", x.step(0), -1);
+        Due.is("what was not done isn't counted", x.count(3), 3);
     }
 }

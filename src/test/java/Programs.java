@@ -19,6 +19,9 @@ final class Programs {
         "\\a b c d e f g h i j.a (b (c (d (e (f (g (h (i j))))))))", "\\a b c.a (b (c (a (b (c (a (b (c a))))))))",
         "\\s z.s (s (s (s (s (s (s (s (s (s (s (s (s (s (s z))))))))))))))", "(\\x.x x) 2", "(\\x.x x) 3", "(\\x y.x y x) 2 2", "2 (\\x.x x) (\\y.y)", "2 (\\x.x x x) (\\y.y)",
         "2 (\\f x.f (f x)) (\\x.x x) (\\x.x)", "(\\x.\\y.x (x y)) ((\\x.x x) (\\x.x))", "5 5", "9 2", "2 9", "(\\a.a (\\b c.c b) a) (\\d.d d)",
+        // here a function comes to lie within itself, so that only the stacks tell whose a variable is
+        "(\\b.((\\a.a) b) b ((b b) (b b))) ((\\n e c.\\c.e c c)(\\c.\\y.\\x.\\d.\\e c x.2))", "(\\b.b b)((\\a.\\y.a a y (\\x.x)) 2)",
+        "\\y.(\\d.d (\\e.\\b.\\b.\\y.b) (d d))(\\a n e.((\\f.n (\\x.x) f n) ((e n n e) (\\c.n c n))))",
     };
 
     private final Random random;

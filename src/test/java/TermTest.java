@@ -135,6 +135,9 @@ public final class TermTest {
         Due.is("plain(200)", x.plain(200), -1);
         Due.is("count(12), count(13)", x.count(12) + " " + x.count(13), "-1 -1");
         Due.is("plain(2) behind that", x.plain(2), 27);
+        FanNet y = Due.told("\\y.(\\x.x x x)(\\x.x x x)");
+        Due.is("plain(140): 994", y.plain(140), 994);
+        Due.is("plain(141): 1001 are too many", y.plain(141), -1);
     }
 
     /** 3 5 i i takes 189 rounds, every i ahead of it one more. */
