@@ -403,7 +403,7 @@ public final class FanNet {
         }
     }
 
-    /** A row of numbers that grows up to a bound; every index is looked at here, and only here. */
+    /** A row of numbers that grows up to a bound; whoever uses it need not look at an index first. */
     private static final class Row {
         private final int most;
         private int[] items;
