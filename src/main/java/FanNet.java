@@ -442,9 +442,9 @@ public final class FanNet {
             return true;
         }
 
-        boolean insert(int i, int value) {
+        void insert(int i, int value) {
             if (i < 0 || i > size || size >= most) {
-                return false;
+                return;
             }
             if (size >= items.length) {
                 items = Arrays.copyOf(items, Math.min(most, 2 * items.length));
@@ -452,7 +452,6 @@ public final class FanNet {
             System.arraycopy(items, i, items, i + 1, size - i);
             items[i] = value;
             size++;
-            return true;
         }
 
         void drop(int i) {

@@ -27,6 +27,7 @@ public final class NetEdgesTest {
         throughPortsWiredToEachOther();
         leastFreeNumber();
         fullOrNot();
+        nothingIsLeftOfBoth();
         wantedFull();
         fullByAText();
         lesserCounts();
@@ -36,6 +37,7 @@ public final class NetEdgesTest {
         runsThatEnd();
         trialsOf400();
         trialsThatEnd();
+        trialsTellWhatStepsDo();
         Due.end();
     }
 
@@ -365,6 +367,24 @@ public final class NetEdgesTest {
         }
     }
 
+    /** "Both NODES go": with all numbers in use, too, neither kind, level nor wire of them is left. */
+    private static void nothingIsLeftOfBoth() {
+        for (char kind : "FBC".toCharArray()) {
+            for (int nodes : new int[] {20, 399, 400}) {
+                FanNet x = pair(kind, 9, kind, 9).padded(nodes).in();
+                int curls = x.count(21);
+                Due.is("at first", x.count(2) + " " + x.count(16 + Built.KINDS.indexOf(kind)), "9 " + (kind == 'C' ? curls : 2));
+                Due.is("two go out", x.step(1), 2);
+                Due.is("their level", x.count(2), 0);
+                Due.is("their kind", x.count(16 + Built.KINDS.indexOf(kind)), kind == 'C' ? curls - 2 : 0);
+                Due.is("their wire", x.count(1), kind == 'F' ? 2 : 1);
+                for (int node : new int[] {2, 3, 400, 401, 402}) {
+                    Due.is("node " + node, () -> x.node(node, 0), Due.NSE);
+                }
+            }
+        }
+    }
+
     private static void wantedFull() {
         Built net = Built.of("R0 F0 L1 E0", "0.0-1.1 1.0-2.0 1.2-3.0 2.1-2.2");
         for (int nodes = 397; nodes <= 400; nodes++) {
@@ -387,6 +407,14 @@ public final class NetEdgesTest {
             all += x.count(16 + kind);
         }
         Due.is("nodes of all kinds", all, 400);
+        int heads = 0;
+        for (int node = 1; node < 400; node++) {
+            int other = x.node(node, 2);
+            heads += other % 4 == 0 && other > 0 ? 1 : 0;
+        }
+        Due.is("active wires", x.count(1), heads / 2);
+        int behind = heads / 2;
+        Due.is("no further one", () -> x.active(behind, 0), Due.NSE);
         for (int node = 400; node < 404; node++) {
             int none = node;
             Due.is("node(" + node + ", 0)", () -> x.node(none, 0), Due.NSE);
@@ -535,5 +563,38 @@ public final class NetEdgesTest {
         Due.is("way", () -> x.trial(-1, 0), Due.IAE);
         Due.is("what", () -> x.trial(0, 4), Due.NSE);
         Due.is("what", () -> x.trial(2, -1), Due.NSE);
+    }
+
+    /** "How many STEPS it takes .., how many BETAS of these, the most NODES on the way, how it ends": as step() does it. */
+    private static void trialsTellWhatStepsDo() {
+        for (String text : Programs.WRITTEN) {
+            for (int way = 0; way < 3; way++) {
+                FanNet x = new FanNet();
+                if (Due.tell(x, text) != 0) {
+                    break;
+                }
+                // an earlier trial of another net must not show in this one
+                x.trial(2 - way, 0);
+                x.run(2 - way, 13);
+                String told = trial(x, way);
+                x.trial(2 - way, 0);
+                Due.is("once more " + text + " by " + way, trial(x, way), told);
+                Due.is("trial of " + text + " by " + way, told, stepped(x, way));
+            }
+        }
+    }
+
+    private static String stepped(FanNet x, int way) {
+        int steps = 0;
+        int betas = 0;
+        int most = x.count(0);
+        int kind = 1;
+        while (steps < 400 && kind > 0) {
+            kind = x.step(way);
+            steps += kind > 0 ? 1 : 0;
+            betas += kind == 1 ? 1 : 0;
+            most = Math.max(most, x.count(0));
+        }
+        return steps + " " + betas + " " + most + " " + Math.min(kind, 1);
     }
 }

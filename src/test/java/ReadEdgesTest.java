@@ -403,5 +403,18 @@ public final class ReadEdgesTest {
             (i % 2 == 0 ? empty : same).in(x);
             Due.is("parts behind walk " + i, x.count(10) + " " + x.count(23) + " " + Due.parts(x, 0, 2), i % 2 == 0 ? "2 3 1 2" : "2 5 1 2");
         }
+        // a hundred functions of level 200 remember 20000 stacks a walk
+        StringBuilder nodes = new StringBuilder("R0 F0 E0");
+        StringBuilder wires = new StringBuilder("0.0-1.1 1.0-3.0 1.2-2.0");
+        for (int i = 3; i < 103; i += 2) {
+            nodes.append(" L200 L200");
+            wires.append(" " + i + ".1-" + (i + 1) + ".0 " + (i + 1) + ".1-" + (i < 101 ? i + 2 + ".0" : "103.1"));
+            wires.append(i < 101 ? " " + i + ".2-" + (i + 1) + ".2" : " 101.2-104.0 103.0-102.2 103.2-105.0");
+        }
+        Built deep = Built.of(nodes + " F200 E0 E0", wires.toString());
+        for (int i = 0; i < 12; i++) {
+            deep.in(x);
+            Due.is("deep walk " + i, x.count(10) + " " + x.part(0, 100), "101 2");
+        }
     }
 }

@@ -620,7 +620,7 @@ public final class TextEdgesTest {
         String full = nested(24, 11, " aa", " b b b");
         String tower = "a=9 9 9;b=a a a;c=b b b;c";
         String[] ends = {"a=1;b=0;a", "a=1;b", "a=(1", "a=1", "((((((((((((", "\\a b c", "\\a b c.(a (b", "1 1 1 (", "a=1;a=", "9 9 9 9 9 9",
-            full, tower, told(12) + "m=", "\\" + ROW + " ae", "1", ""};
+            full, "n=" + full + ";n 1", "n=" + full + ";1 (1 n)", "n=" + full + ";\\x y.y y x n y", tower, told(12) + "m=", "\\" + ROW + " ae", "1", ""};
         for (String end : ends) {
             Object[][] all = {{"a", 3, 0}, {"b", 3, 0}, {"1)", 1, 1}, {"1;", 1, 1}, {"\\x.c", 3, 3}, {".", 1, 0}, {"a=1", 1, 3}, {"x", 3, 0},
                 {"(((((((((((((", 2, 12}, {told(12) + "m=", 2, 48}, {"\\" + ROW + " ae", 2, ROW.length() + 2}};
